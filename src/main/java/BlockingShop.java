@@ -21,15 +21,15 @@ public final class BlockingShop {
     private static final int MOST = 6;
     private static final int MOST_OPERATIONS = MOST * MOST;
 
-    private final byte[] buffer = new byte[MOST_BYTES];
+    /** Its text is the input buffer. */
+    private final SetupReader reader = new SetupReader();
     private int buffered = 0;
     private int errorAt = -1;
-    private final SetupReader reader = new SetupReader(buffer);
-    private final Plan plan;
     private final Schedule schedule;
+    private final Plan plan;
     /** A plan to try changes on, so that a change that would deadlock leaves the present plan as it is. */
-    private final Plan trialPlan;
     private final Schedule trialSchedule;
+    private final Plan trialPlan;
     /** The plans before the latest changes, in a ring: the oldest one is at oldestChange. */
     private final Plan[] history = new Plan[MOST_CHANGES];
     private int oldestChange = 0;
@@ -37,10 +37,10 @@ public final class BlockingShop {
 
     public BlockingShop() {
         Shop noShop = new Shop();
-        plan = new Plan(noShop);
-        schedule = new Schedule(plan);
-        trialPlan = new Plan(noShop);
-        trialSchedule = new Schedule(trialPlan);
+        schedule = new Schedule(noShop);
+        plan = schedule.plan;
+        trialSchedule = new Schedule(noShop);
+        trialPlan = trialSchedule.plan;
         for (int i = 0; i < MOST_CHANGES; i++) {
             history[i] = new Plan(noShop);
         }
@@ -63,10 +63,10 @@ public final class BlockingShop {
         if (at < 0 || at > MOST_BYTES - 4) {
             return;
         }
-        buffer[at] = (byte) (word >>> 24);
-        buffer[at + 1] = (byte) (word >>> 16);
-        buffer[at + 2] = (byte) (word >>> 8);
-        buffer[at + 3] = (byte) word;
+        reader.text[at] = (byte) (word >>> 24);
+        reader.text[at + 1] = (byte) (word >>> 16);
+        reader.text[at + 2] = (byte) (word >>> 8);
+        reader.text[at + 3] = (byte) word;
     }
 
     public int load(int length) throws IllegalArgumentException {
@@ -479,7 +479,7 @@ public final class BlockingShop {
 
     /** The times of a plan, and what follows from them: its costs and its critical path. */
     private static final class Schedule {
-        private final Plan plan;
+        final Plan plan;
         final int[] starts = new int[MOST_OPERATIONS];
         /** The machine arc to each operation, which has one at most: its source, or -1, and its length. */
         private final int[] arcSource = new int[MOST_OPERATIONS];
@@ -489,8 +489,8 @@ public final class BlockingShop {
         int pathLength = 0;
         private final CostRule costRule = new CostRule();
 
-        Schedule(Plan plan) {
-            this.plan = plan;
+        Schedule(Shop shop) {
+            plan = new Plan(shop);
         }
 
         /** Computes the starts; tells false, and leaves no useful starts, if the plan is deadlocked. */
@@ -545,8 +545,8 @@ public final class BlockingShop {
             for (int job = 0; job < plan.shop.jobs; job++) {
                 for (int operation = 0; operation < plan.shop.operations[job]; operation++) {
                     int id = idOf(job, operation);
-                    if (!settled[id] && isReady(operation, id)) {
-                        starts[id] = earliestStart(job, operation);
+                    if (!settled[id] && isReady(id)) {
+                        starts[id] = earliestStart(id);
                         settled[id] = true;
                         count++;
                     }
@@ -555,20 +555,15 @@ public final class BlockingShop {
             return count;
         }
 
-        private boolean isReady(int operation, int id) {
-            return (operation == 0 || settled[id - 1]) && (arcSource[id] < 0 || settled[arcSource[id]]);
+        private boolean isReady(int id) {
+            return (id % MOST == 0 || settled[id - 1]) && (arcSource[id] < 0 || settled[arcSource[id]]);
         }
 
-        private int earliestStart(int job, int operation) {
-            int id = idOf(job, operation);
-            int time = plan.shop.release[job];
-            if (operation > 0) {
-                time = Math.max(time, completedAt(id - 1));
-            }
-            if (arcSource[id] >= 0) {
-                time = Math.max(time, starts[arcSource[id]] + arcLength[id]);
-            }
-            return time;
+        private int earliestStart(int id) {
+            int release = plan.shop.release[id / MOST];
+            int byJob = id % MOST == 0 ? release : starts[id - 1] + plan.duration[id - 1];
+            int byMachine = arcSource[id] < 0 ? release : starts[arcSource[id]] + arcLength[id];
+            return Math.max(release, Math.max(byJob, byMachine));
         }
 
         /**
@@ -589,7 +584,7 @@ public final class BlockingShop {
             for (int job = 0; job < plan.shop.jobs; job++) {
                 for (int operation = 0; operation < plan.shop.operations[job]; operation++) {
                     int id = idOf(job, operation);
-                    int time = earliestStart(job, operation);
+                    int time = earliestStart(id);
                     if (time > starts[id]) {
                         starts[id] = time;
                         raised = true;
@@ -612,7 +607,7 @@ public final class BlockingShop {
         }
 
         private int lastOf(int job) {
-            return idOf(job, plan.shop.operations[job] - 1);
+            return job * MOST + plan.shop.operations[job] - 1;
         }
 
         int completionOf(int job) {
@@ -751,7 +746,10 @@ public final class BlockingShop {
         }
 
         private static int limit(long value) {
-            return (int) Math.max(-GREATEST, Math.min(GREATEST, value));
+            if (value > GREATEST) {
+                return GREATEST;
+            }
+            return value < -GREATEST ? -GREATEST : (int) value;
         }
     }
 
@@ -767,7 +765,7 @@ public final class BlockingShop {
         /** Above the range of every number, so the digits behind it can't matter. */
         private static final int TOO_LARGE = 100000;
 
-        private final byte[] text;
+        final byte[] text = new byte[MOST_BYTES];
         private int textLength = 0;
         private int tokenStart = 0;
         private int tokenEnd = 0;
@@ -779,13 +777,9 @@ public final class BlockingShop {
         private final int[] cost = new int[MOST_BYTES];
         private int costLength = 0;
 
-        SetupReader(byte[] text) {
-            this.text = text;
-        }
-
-        /** Reads the text into a new shop; if there is an error, the shop is of no use. */
+        /** Reads the first bytes of the text into a new shop; if there is an error, the shop is of no use. */
         void readInto(Shop shop, int length) {
-            textLength = Math.max(0, Math.min(length, text.length));
+            textLength = Math.max(0, Math.min(length, MOST_BYTES));
             tokenEnd = 0;
             error = 0;
             errorAt = -1;
@@ -810,7 +804,7 @@ public final class BlockingShop {
             if (kind != END || shop.jobs == 0) {
                 fail(SYNTAX_ERROR);
             }
-            if (hasCost) {
+            if (hasCost && error == 0) {
                 shop.cost = Arrays.copyOf(cost, costLength);
             }
         }
@@ -895,23 +889,17 @@ public final class BlockingShop {
 
         /** The depth is the number of parentheses that the factor is in. */
         private void readFactor(int depth) {
-            if (kind == '(') {
-                readParentheses(depth);
+            if (kind == '(' && depth >= MOST_DEPTH) {
+                fail(TOO_DEEP);
+            } else if (kind == '(') {
+                next();
+                readSum(depth + 1);
+                expect(')');
             } else if (kind == NUMBER) {
                 addToCost(readNumber(0, 9999));
             } else {
                 readName();
             }
-        }
-
-        private void readParentheses(int depth) {
-            if (depth >= MOST_DEPTH) {
-                fail(TOO_DEEP);
-                return;
-            }
-            next();
-            readSum(depth + 1);
-            expect(')');
         }
 
         private void readName() {

@@ -163,6 +163,15 @@ public final class PromiseTest {
         due(3, "makespan of another shop", x.makespan(), 108);
         due(3, "machines of another shop", x.machineCount(), 6);
         due(4, "errorOffset after it", x.errorOffset(), -1);
+        put(x, "shop 12 0;job");
+        due(3, "load of a part that ends in a number", x.load(6), SYNTAX);
+        due(4, "its errorOffset", x.errorOffset(), 6);
+        put(x, "shop 1 0;job");
+        due(3, "load of a part that ends in a word", x.load(11), SYNTAX);
+        due(4, "its errorOffset", x.errorOffset(), 9);
+        put(x, "  ");
+        due(3, "load of no byte", x.load(0), SYNTAX);
+        due(4, "its errorOffset", x.errorOffset(), 0);
         due(3, "a text of 80 bytes with spaces behind it", load(x, THREE_JOBS + "    "), 3);
     }
 
@@ -186,6 +195,8 @@ public final class PromiseTest {
         dueError("shop 1 0;job 1 1 1 op 0 1 1;", SYNTAX, 26);
         dueError("shop 1 0;job -1 1 1 op 0 1;", SYNTAX, 13);
         dueError("shop 1 0;jobs 1 1 1 op 0 1;", SYNTAX, 9);
+        dueError("shop 1 0;jobz 1 1 1 op 0 1;", SYNTAX, 9);
+        dueError("shop 1 0;joba 1 1 1 op 0 1;", SYNTAX, 9);
         dueError("shop 1 0;Job 1 1 1 op 0 1;", SYNTAX, 9);
         dueError("shop 1 0;op 0 1;", SYNTAX, 9);
         dueError("shop 1 0;shop 1 0;", SYNTAX, 9);
@@ -393,6 +404,9 @@ public final class PromiseTest {
         dueThrow(19, "critical(-1)", NoSuchElementException.class, () -> x.critical(-1));
         due(20, "blockCount", x.blockCount(), 2);
         due(21, "longestBlock", x.longestBlock(), 3);
+        due(20, "blockCount as the first question", shopOf(THREE_JOBS).blockCount(), 2);
+        due(21, "longestBlock as the first question", shopOf(THREE_JOBS).longestBlock(), 3);
+        due(19, "critical(3) as the first question", shopOf(THREE_JOBS).critical(3), 0);
         BlockingShop equal = shopOf("shop 2 0;job 0 0 0 op 0 5;job 2 0 0 op 1 3;");
         due(19, "critical(0), of the smallest of two jobs", equal.critical(0), 0);
         due(18, "its criticalLength", equal.criticalLength(), 1);
@@ -448,6 +462,8 @@ public final class PromiseTest {
         due(25, "orderAt(1, 2)", x.orderAt(1, 2), 11);
         due(25, "swap(1, 1) back", x.swap(1, 1), 18);
         due(25, "checksum as before", x.checksum(), before);
+        due(30, "undo of a swap; load, improve and a swap are left", x.undo(), 3);
+        due(30, "orderAt(1, 1) then", x.orderAt(1, 1), 20);
     }
 
     private static void allowedSwaps() {
