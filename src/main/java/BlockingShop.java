@@ -498,8 +498,8 @@ public final class BlockingShop {
             for (int machine = 0; machine < plan.shop.machines; machine++) {
                 setArcs(machine);
             }
-            boolean hasNoCycle = settleAll();
-            return hasNoCycle || (plan.shop.swapsAllowed && raiseAll());
+            int left = settleAll();
+            return left == 0 || (plan.shop.swapsAllowed && raiseOthers(left));
         }
 
         private void setArcs(int machine) {
@@ -521,8 +521,8 @@ public final class BlockingShop {
             }
         }
 
-        /** Settles operations whose arcs come from settled ones, until none is left; false if a cycle holds some. */
-        private boolean settleAll() {
+        /** Settles operations whose arcs come from settled ones; tells how many are left, which wait for a cycle. */
+        private int settleAll() {
             int left = 0;
             for (int job = 0; job < plan.shop.jobs; job++) {
                 for (int operation = 0; operation < plan.shop.operations[job]; operation++) {
@@ -537,7 +537,7 @@ public final class BlockingShop {
                 newlySettled = settleSome();
                 left -= newlySettled;
             }
-            return left == 0;
+            return left;
         }
 
         private int settleSome() {
@@ -567,11 +567,11 @@ public final class BlockingShop {
         }
 
         /**
-         * Raises starts to what their arcs ask for, until nothing rises. Without a cycle longer than 0, a start is
-         * final after as many rounds as a path has arcs, so a rise after that tells of such a cycle.
+         * Raises the starts of the operations that are not settled, until nothing rises. Without a cycle longer than 0,
+         * they are final after as many rounds as there are of them, so a rise after that tells of such a cycle.
          */
-        private boolean raiseAll() {
-            for (int round = 0; round <= MOST_OPERATIONS; round++) {
+        private boolean raiseOthers(int others) {
+            for (int round = 0; round <= others; round++) {
                 if (!raiseSome()) {
                     return true;
                 }
@@ -584,7 +584,7 @@ public final class BlockingShop {
             for (int job = 0; job < plan.shop.jobs; job++) {
                 for (int operation = 0; operation < plan.shop.operations[job]; operation++) {
                     int id = idOf(job, operation);
-                    int time = earliestStart(id);
+                    int time = settled[id] ? starts[id] : earliestStart(id);
                     if (time > starts[id]) {
                         starts[id] = time;
                         raised = true;
