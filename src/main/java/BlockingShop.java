@@ -493,13 +493,24 @@ public final class BlockingShop {
             plan = new Plan(shop);
         }
 
-        /** Computes the starts; tells false, and leaves no useful starts, if the plan is deadlocked. */
+        /**
+         * Computes the starts: an operation is settled when the sources of its arcs are. Tells false, and leaves no
+         * useful starts, if a cycle that deadlocks the plan keeps some operations from that.
+         */
         boolean compute() {
             for (int machine = 0; machine < plan.shop.machines; machine++) {
                 setArcs(machine);
             }
-            int left = settleAll();
-            return left == 0 || (plan.shop.swapsAllowed && raiseOthers(left));
+            int left = unsettleAll();
+            int newlySettled = left;
+            for (int round = 0; round < MOST_OPERATIONS && left > 0 && newlySettled > 0; round++) {
+                newlySettled = settleSome();
+                if (newlySettled == 0 && plan.shop.swapsAllowed) {
+                    newlySettled = settleRing();
+                }
+                left -= newlySettled;
+            }
+            return left == 0;
         }
 
         private void setArcs(int machine) {
@@ -521,23 +532,18 @@ public final class BlockingShop {
             }
         }
 
-        /** Settles operations whose arcs come from settled ones; tells how many are left, which wait for a cycle. */
-        private int settleAll() {
-            int left = 0;
+        private int unsettleAll() {
+            int count = 0;
             for (int job = 0; job < plan.shop.jobs; job++) {
                 for (int operation = 0; operation < plan.shop.operations[job]; operation++) {
                     int id = idOf(job, operation);
                     settled[id] = false;
+                    // In a ring, starts are looked at before they are settled, so what stands there must not be too late.
                     starts[id] = plan.shop.release[job];
-                    left++;
+                    count++;
                 }
             }
-            int newlySettled = left;
-            for (int round = 0; round < MOST_OPERATIONS && newlySettled > 0; round++) {
-                newlySettled = settleSome();
-                left -= newlySettled;
-            }
-            return left;
+            return count;
         }
 
         private int settleSome() {
@@ -567,31 +573,50 @@ public final class BlockingShop {
         }
 
         /**
-         * Raises the starts of the operations that are not settled, until nothing rises. Without a cycle longer than 0,
-         * they are final after as many rounds as there are of them, so a rise after that tells of such a cycle.
+         * Settles a ring, which is a cycle of machine arcs of length 0: its operations change places and start together.
+         * No other cycle has the length 0, as a job arc and an arc of a buffered machine take a duration.
          */
-        private boolean raiseOthers(int others) {
-            for (int round = 0; round <= others; round++) {
-                if (!raiseSome()) {
-                    return true;
-                }
-            }
-            return false;
-        }
-
-        private boolean raiseSome() {
-            boolean raised = false;
+        private int settleRing() {
             for (int job = 0; job < plan.shop.jobs; job++) {
                 for (int operation = 0; operation < plan.shop.operations[job]; operation++) {
                     int id = idOf(job, operation);
-                    int time = settled[id] ? starts[id] : earliestStart(id);
-                    if (time > starts[id]) {
-                        starts[id] = time;
-                        raised = true;
+                    int size = settled[id] ? 0 : sizeOfRing(id);
+                    if (size > 0) {
+                        startTogether(id, size);
+                        return size;
                     }
                 }
             }
-            return raised;
+            return 0;
+        }
+
+        /** The number of operations of the ring that the operation is in; 0 if there is none, or one waits for its job. */
+        private int sizeOfRing(int id) {
+            int at = id;
+            for (int size = 1; size <= MOST_OPERATIONS; size++) {
+                if (at % MOST == 0 || !settled[at - 1] || arcSource[at] < 0 || arcLength[at] > 0) {
+                    return 0;
+                }
+                at = arcSource[at];
+                if (at == id) {
+                    return size;
+                }
+            }
+            return 0;
+        }
+
+        private void startTogether(int id, int size) {
+            int time = 0;
+            int at = id;
+            for (int i = 0; i < size && at >= 0; i++) {
+                time = Math.max(time, earliestStart(at));
+                at = arcSource[at];
+            }
+            for (int i = 0; i < size && at >= 0; i++) {
+                starts[at] = time;
+                settled[at] = true;
+                at = arcSource[at];
+            }
         }
 
         int completedAt(int id) {
