@@ -538,7 +538,7 @@ public final class BlockingShop {
                 for (int operation = 0; operation < plan.shop.operations[job]; operation++) {
                     int id = idOf(job, operation);
                     settled[id] = false;
-                    // In a ring, starts are looked at before they are settled, so what stands there must not be too late.
+                    // In a ring, starts are looked at before they are settled: they must not be too late.
                     starts[id] = plan.shop.release[job];
                     count++;
                 }
@@ -573,8 +573,7 @@ public final class BlockingShop {
         }
 
         /**
-         * Settles a ring, which is a cycle of machine arcs of length 0: its operations change places and start together.
-         * No other cycle has the length 0, as a job arc and an arc of a buffered machine take a duration.
+         * Settles a ring, a cycle of machine arcs of length 0: its operations change places and start together. No other cycle has the length 0, as a job arc and an arc of a buffered machine take a duration.
          */
         private int settleRing() {
             for (int job = 0; job < plan.shop.jobs; job++) {
@@ -590,7 +589,7 @@ public final class BlockingShop {
             return 0;
         }
 
-        /** The number of operations of the ring that the operation is in; 0 if there is none, or one waits for its job. */
+        /** The number of operations of the ring that an operation is in; 0 without one, or if one waits for its job. */
         private int sizeOfRing(int id) {
             int at = id;
             for (int size = 1; size <= MOST_OPERATIONS; size++) {
