@@ -573,7 +573,8 @@ public final class BlockingShop {
         }
 
         /**
-         * Settles a ring, a cycle of machine arcs of length 0: its operations change places and start together. No other cycle has the length 0, as a job arc and an arc of a buffered machine take a duration.
+         * Settles a ring, a cycle of machine arcs of length 0: its operations change places and start together. No
+         * other cycle has the length 0, as a job arc and an arc of a buffered machine take a duration.
          */
         private int settleRing() {
             for (int job = 0; job < plan.shop.jobs; job++) {
