@@ -569,7 +569,7 @@ public final class BlockingShop {
             int release = plan.shop.release[id / MOST];
             int byJob = id % MOST == 0 ? release : starts[id - 1] + plan.duration[id - 1];
             int byMachine = arcSource[id] < 0 ? release : starts[arcSource[id]] + arcLength[id];
-            return Math.max(release, Math.max(byJob, byMachine));
+            return Math.max(byJob, byMachine);
         }
 
         /**

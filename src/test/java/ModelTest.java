@@ -17,9 +17,11 @@ public final class ModelTest {
     private static final int RANGE = -3;
     private static final int MANY = -4;
     private static final int DEEP = -5;
+    private static final int MOST_CALLS = 512;
     private static final long NEVER = Long.MIN_VALUE / 4;
 
     private static int wrong = 0;
+    private static int calls = 0;
     private static String loaded = "";
     private static long row = 20261119L;
 
@@ -28,7 +30,13 @@ public final class ModelTest {
         return (int) ((row >>> 33) % bound);
     }
 
+    /** Each call of the object goes through here, so that it is asked no more than it answers for. */
     private static void due(String call, Object got, Object want) {
+        calls++;
+        if (calls == MOST_CALLS + 1) {
+            wrong++;
+            System.out.println("an object is called more than " + MOST_CALLS + " times");
+        }
         if (!want.equals(got)) {
             wrong++;
             if (wrong <= 20) {
@@ -423,6 +431,10 @@ public final class ModelTest {
     private final ArrayDeque<State> history = new ArrayDeque<>();
     private int errorOffset = -1;
 
+    private ModelTest() {
+        calls = 0;
+    }
+
     private void remember() {
         history.addLast(state);
         if (history.size() > 8) {
@@ -485,13 +497,11 @@ public final class ModelTest {
         due("makespan", shop.makespan(), state.makespan(starts));
         due("planCost", shop.planCost(), state.cost(starts));
         due("errorOffset", shop.errorOffset(), errorOffset);
-        long sum = 31L * state.makespan(starts) + state.cost(starts);
         for (int m = 0; m < setup.machines; m++) {
             due("orderLength", shop.orderLength(m), state.orders().get(m).size());
             int blocked = 0;
             for (int p = 0; p < state.orders().get(m).size(); p++) {
                 int code = state.orders().get(m).get(p);
-                sum = 31 * sum + code;
                 due("orderAt " + m + " " + p, shop.orderAt(m, p), code);
                 due("operation, position", shop.operation(code / 10, code % 10, 2), p);
                 due("operation, machine", shop.operation(code / 10, code % 10, 0), m);
@@ -505,14 +515,28 @@ public final class ModelTest {
             due("completion " + j, shop.completion(j), state.completion(starts, j));
             due("jobCost " + j, shop.jobCost(j), state.cost(starts, j));
             for (int k = 0; k < starts[j].length; k++) {
-                sum = 31 * sum + starts[j][k];
                 due("start " + j + " " + k, shop.start(j, k), starts[j][k]);
                 due("leave " + j + " " + k, shop.leave(j, k), state.leave(starts, j, k));
                 due("operation, duration", shop.operation(j, k, 1), state.durations()[j][k]);
             }
         }
-        due("checksum", shop.checksum(), sum);
+        checkSum(starts);
         checkCriticalPath(starts);
+    }
+
+    private void checkSum(int[][] starts) {
+        long sum = 31L * state.makespan(starts) + state.cost(starts);
+        for (List<Integer> order : state.orders()) {
+            for (int code : order) {
+                sum = 31 * sum + code;
+            }
+        }
+        for (int[] line : starts) {
+            for (int start : line) {
+                sum = 31 * sum + start;
+            }
+        }
+        due("checksum", shop.checksum(), sum);
     }
 
     private void checkCriticalPath(int[][] starts) {
@@ -740,33 +764,37 @@ public final class ModelTest {
         return text.length() > 900 ? text.substring(0, 900) : text;
     }
 
-    private static void runPlans(int calls) {
+    private static void runPlan() {
         ModelTest run = new ModelTest();
-        for (int call = 0; call < calls && wrong == 0; call++) {
-            if (call == 0 || pick(25) == 0) {
+        run.load(shortened(setupText()));
+        int changes = pick(13);
+        int loadAt = pick(26);
+        for (int change = 0; change < changes; change++) {
+            if (change == loadAt) {
                 run.load(shortened(setupText()));
-            } else {
-                run.changeSomething();
             }
-            run.checkAll();
-            if (pick(4) == 0) {
-                run.checkSwaps();
-            }
+            run.changeSomething();
+            run.checkSum(run.state.starts());
         }
+        run.checkAll();
+        run.checkSwaps();
     }
 
-    private static void runTexts(int texts) {
+    private static void runText() {
         ModelTest run = new ModelTest();
-        for (int i = 0; i < texts && wrong == 0; i++) {
-            run.load(shortened(spoiled(setupText())));
-            run.checkAll();
+        if (pick(2) == 0) {
+            run.load(shortened(setupText()));
         }
+        run.load(shortened(spoiled(setupText())));
+        run.checkAll();
     }
 
     public static void main(String[] args) {
-        for (int run = 0; run < 150; run++) {
-            runPlans(40);
-            runTexts(40);
+        for (int run = 0; run < 2000 && wrong == 0; run++) {
+            runPlan();
+            runText();
+            runText();
+            runText();
         }
         System.out.println(wrong == 0 ? "the model agrees" : wrong + " answers differ from the model");
         if (wrong != 0) {

@@ -1,95 +1,32 @@
 import java.util.NoSuchElementException;
 
 /** For each promise of the document: ordinary calls, the edges that the document names, and wrong calls. */
-public final class PromiseTest {
+public final class PromiseTest extends Checks {
     /** The first example: three jobs on two blocking machines, where no cycle of arcs is allowed. */
     private static final String THREE_JOBS =
             "shop 2 0;job 0 10 1 op 0 3 op 1 4;job 0 20 2 op 0 2 op 1 5;job 1 9 3 op 1 6;";
     /** Two jobs that can change places at the same time, with and without leave to do so. */
     private static final String TWO_CROSSING = "job 0 9 1 op 0 2 op 1 3;job 0 9 1 op 1 2 op 0 4;";
     private static final String JOB = "job 1 1 1 op 0 1;";
-    private static final int SYNTAX = BlockingShop.SYNTAX_ERROR;
-    private static final int RANGE = BlockingShop.OUT_OF_RANGE;
-    private static final int MANY = BlockingShop.TOO_MANY;
-    private static final int DEEP = BlockingShop.TOO_DEEP;
-
-    private static int wrong = 0;
-
-    private interface Call {
-        void run();
-    }
 
     private static void due(int promise, String what, long got, long want) {
-        if (got != want) {
-            wrong++;
-            System.out.println("promise " + promise + ": " + what + " is " + got + ", due is " + want);
-        }
+        due("promise " + promise + ": " + what, got, want);
     }
 
-    private static void dueThrow(int promise, String what, Class<?> want, Call call) {
-        Class<?> got = null;
-        try {
-            call.run();
-        } catch (RuntimeException e) {
-            got = e.getClass();
-        }
-        if (got != want) {
-            wrong++;
-            System.out.println("promise " + promise + ": " + what + " throws " + got + ", due is " + want);
-        }
-    }
-
-    private static void noIndex(int promise, String what, Call call) {
+    private static void noIndex(int promise, String what, Runnable call) {
         dueThrow(promise, what, IndexOutOfBoundsException.class, call);
     }
 
-    private static void noArgument(int promise, String what, Call call) {
+    private static void noArgument(int promise, String what, Runnable call) {
         dueThrow(promise, what, IllegalArgumentException.class, call);
     }
 
-    private static void noState(int promise, String what, Call call) {
+    private static void noState(int promise, String what, Runnable call) {
         dueThrow(promise, what, IllegalStateException.class, call);
     }
 
-    /** Appends the text, with spaces behind it up to a multiple of 20 bytes. */
-    private static void put(BlockingShop shop, String text) {
-        for (int from = 0; from < text.length(); from += 20) {
-            int[] words = new int[5];
-            for (int i = 0; i < 20; i++) {
-                int sign = from + i < text.length() ? text.charAt(from + i) : ' ';
-                words[i / 4] = words[i / 4] << 8 | sign;
-            }
-            shop.append(words[0], words[1], words[2], words[3], words[4]);
-        }
-    }
-
-    private static int load(BlockingShop shop, String text) {
-        put(shop, text);
-        return shop.load(text.length());
-    }
-
-    private static BlockingShop shopOf(String text) {
-        BlockingShop shop = new BlockingShop();
-        int jobs = load(shop, text);
-        if (jobs < 1) {
-            wrong++;
-            System.out.println("the text is refused with " + jobs + " at " + shop.errorOffset() + ": " + text);
-        }
-        return shop;
-    }
-
-    private static void dueError(String text, int code, int offset) {
-        BlockingShop shop = new BlockingShop();
-        due(3, "load of " + text, load(shop, text), code);
-        due(4, "errorOffset of " + text, shop.errorOffset(), offset);
-        due(5, "machineCount after " + text, shop.machineCount(), 0);
-        due(30, "undo after " + text, shop.undo(), -1);
-    }
-
-    private static void dueFine(String text, int jobs) {
-        BlockingShop shop = new BlockingShop();
-        due(3, "load of " + text, load(shop, text), jobs);
-        due(4, "errorOffset of " + text, shop.errorOffset(), -1);
+    private static void dueThrow(int promise, String what, Class<?> want, Runnable call) {
+        dueThrow("promise " + promise + ": " + what, want, call);
     }
 
     private static int costOf(String sum) {
@@ -654,9 +591,6 @@ public final class PromiseTest {
         undoing();
         undoingLoads();
         checksums();
-        System.out.println(wrong == 0 ? "all promises hold" : wrong + " answers are not as promised");
-        if (wrong != 0) {
-            System.exit(1);
-        }
+        finish("all promises hold");
     }
 }
